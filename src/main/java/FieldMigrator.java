@@ -781,28 +781,20 @@ public final class FieldMigrator {
             }
             tell(behind, isUp, left, reached);
             if (state.takeOut(behind, isUp ? BEHIND : FRONT, kept)) {
-                reachKept(state, behind, isUp);
+                tell(behind, !isUp, kept, back);
+                if (isSame(back, left)) {
+                    reached[0] = kept[0];
+                    reached[1] = kept[1];
+                } else {
+                    state.losses++;
+                }
             }
             tell(behind, !isUp, reached, back);
             if (!isSame(back, left)) {
                 state.putAway(behind, isUp ? FRONT : BEHIND, left);
             }
-            // A field that is only needed or not any more is on both sides: it is cleared first.
-            for (int i = 0; i < PAIR; i++) {
-                state.put(from[i], NONE);
-            }
             for (int i = 0; i < PAIR; i++) {
                 state.put(to[i], reached[i]);
-            }
-        }
-
-        private void reachKept(State state, int behind, boolean isUp) {
-            tell(behind, !isUp, kept, back);
-            if (isSame(back, left)) {
-                reached[0] = kept[0];
-                reached[1] = kept[1];
-            } else {
-                state.losses++;
             }
         }
 
@@ -895,7 +887,7 @@ public final class FieldMigrator {
         }
     }
 
-    /** The fields of a version that a screen of a program uses. */
+    /** A form, with the numbers of its fields as bits. */
     private static final class Form {
         final Schema owner;
         int version;
@@ -927,6 +919,7 @@ public final class FieldMigrator {
     private static final class State {
         int version;
         int losses;
+        // By the number of the field; what stands for fields that the version has not is never looked at.
         private final int[] values = new int[FIELDS];
         private final boolean[] isBoxed = new boolean[2 * VERSIONS];
         private final int[] box = new int[2 * PAIR * VERSIONS];

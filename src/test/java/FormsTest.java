@@ -24,6 +24,8 @@ public final class FormsTest {
         }
         m.retire(0);
         CHECKS.fails("a ninth form", Checks.STATE, () -> m.form(0));
+        CHECKS.fails("form 8", Checks.BOUNDS, () -> m.renew(8));
+        CHECKS.fails("form -1", Checks.BOUNDS, () -> m.renew(-1));
         CHECKS.fails("no schema goes first", Checks.BOUNDS, () -> m.form(2));
     }
 
@@ -178,6 +180,20 @@ public final class FormsTest {
         CHECKS.fails("retired", Checks.STATE, () -> m.renew(0));
     }
 
+    /** What a form let go, it could not write: the joined field is held by its other part alone. */
+    private static void renewBehindLetGo() {
+        FieldMigrator m = withFields();
+        m.form(0);
+        m.take(0, 0, true);
+        m.take(0, 1, false);
+        m.letGo(0, 0);
+        m.join(0, 0, 1, 4, 10);
+        CHECKS.due("the joined one", 1, () -> m.renew(0));
+        m.row(0, 4);
+        CHECKS.due("it reads", -1, () -> m.read(0, 0, 4));
+        CHECKS.fails("and may not write", Checks.STATE, () -> m.write(0, 0, 4, 5));
+    }
+
     private static void read() {
         FieldMigrator m = withFields();
         m.form(0);
@@ -263,6 +279,7 @@ public final class FormsTest {
         retire();
         dropsWithoutRoom();
         renew();
+        renewBehindLetGo();
         read();
         write();
         writeWithLosses();

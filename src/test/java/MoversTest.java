@@ -24,6 +24,7 @@ public final class MoversTest {
             CHECKS.due("mover", number, () -> m.mover(number % 2, 0));
         }
         CHECKS.fails("a ninth mover", Checks.STATE, () -> m.mover(0, 0));
+        CHECKS.fails("mover 8", Checks.BOUNDS, () -> m.step(8));
         CHECKS.fails("no version goes first", Checks.BOUNDS, () -> m.mover(0, 4));
     }
 

@@ -28,6 +28,7 @@ public final class RowsTest {
             m.row(0, 0);
         }
         CHECKS.fails("a row 20", Checks.STATE, () -> m.row(0, 0));
+        CHECKS.fails("it does not stand", Checks.BOUNDS, () -> m.standing(20));
         CHECKS.fails("a row 20 at no version", Checks.BOUNDS, () -> m.row(0, 5));
     }
 

@@ -162,6 +162,24 @@ public final class SchemasTest {
         CHECKS.fails("full", Checks.STATE, () -> f.split(0, 0, 24, 25, 10));
     }
 
+    /** The most fields that a schema can have: all steps but the first are splits. */
+    private static void mostFields() {
+        FieldMigrator m = withSchema();
+        m.add(0, 0, 0, 9999, true);
+        for (int i = 1; i <= 22; i++) {
+            int part = i;
+            CHECKS.due("split " + part, 2 * part - 1, () -> m.split(0, part - 1, part - 1, part, 2));
+        }
+        CHECKS.due("the last field", 443, () -> m.field(0, 23, 22));
+        int row = m.row(0, 23);
+        CHECKS.due("default of the last but one", 0, () -> m.value(row, 23, 21));
+        CHECKS.due("default of the last", 1, () -> m.set(row, 22, 77));
+        CHECKS.due("it is set", 77, () -> m.value(row, 23, 22));
+        CHECKS.due("seen ahead of the last split", 77, () -> m.value(row, 22, 21));
+        CHECKS.due("seen at the first version", 9999, () -> m.value(row, 1, 0));
+        CHECKS.due("the row stays", 230000, () -> m.standing(row));
+    }
+
     private static void join() {
         FieldMigrator m = withSchema();
         m.add(0, 0, 0, 500, false);
@@ -301,6 +319,7 @@ public final class SchemasTest {
         rename();
         turn();
         split();
+        mostFields();
         join();
         toggleNeed();
         drop();
