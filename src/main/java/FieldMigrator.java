@@ -391,7 +391,7 @@ public final class FieldMigrator {
     public int step(int mover) throws IndexOutOfBoundsException, IllegalStateException {
         Mover stepping = moverAt(mover);
         int number = farthestRow(stepping);
-        Row moved = number == NONE ? null : rows[number];
+        Row moved = number >= 0 && number < rows.length ? rows[number] : null;
         if (moved == null || moveCount >= MOVES) {
             throw new IllegalStateException("all rows are at the target");
         }
@@ -820,16 +820,16 @@ public final class FieldMigrator {
 
         /** The same, whether the fields that are reached are needed or not. */
         private void tellAlone(Step step, boolean isUp, int[] given, int[] told) {
+            int from = isUp ? step.front[0] : step.behind[0];
+            int to = isUp ? step.behind[0] : step.front[0];
             told[0] = NONE;
             told[1] = NONE;
             switch (step.kind) {
                 case ADD:
-                    told[0] = isUp ? defaultOf(step.behind[0]) : NONE;
+                    told[0] = isUp ? defaultOf(to) : NONE;
                     break;
                 case TURN:
-                    int ahead = kindOf(step.front[0]);
-                    int after = kindOf(step.behind[0]);
-                    told[0] = isUp ? turned(given[0], ahead, after) : turned(given[0], after, ahead);
+                    told[0] = turned(given[0], kindOf(from), kindOf(to));
                     break;
                 case SPLIT:
                 case JOIN:
